@@ -62,6 +62,12 @@ public final class CheckTest {
         Due.due("stopped", check(x, 4, 0), 0);
         x.limit(4, 0);
         Due.due("stopped", check(x, 4, 4), 0);
+        Due.program(x, 1, "read;go 1;read;go 1;read;go 1;read");
+        x.limit(4, 1);
+        Due.due("four", check(x, 0, 0, 1, 1, 2, 2, 3, 3), 0);
+        Due.due("the eighth isn't", check(x, 0, 0, 1, 1, 2, 2, 3, 2), 8);
+        Due.due("the seventh isn't", check(x, 0, 0, 1, 1, 2, 2, 2, 3), 7);
+        x.limit(4, 0);
         Due.program(x, 1, "go 1");
         Due.due("no readings", check(x), 0);
         Due.due("too many", check(x, 1), 1);

@@ -3,6 +3,7 @@ public final class ImageTest {
     public static void main(String[] args) {
         images();
         whatIsKept();
+        numbersThatWait();
         whatIsNotKept();
         Due.finish();
     }
@@ -18,6 +19,17 @@ public final class ImageTest {
         Due.piece(x, 2, 0, 11, 1, 2);
         Due.due("it stays", x.restore(), 1);
         Due.due("piece 1 is away", x.pieceIs(1, 0), Due.BEYOND);
+        Due.piece(x, 1, 0, 10, 1, 2);
+        Due.trace(x, 1, 3, 4);
+        x.restore();
+        Due.piece(x, 4, 3, 10, 1, 2, 3);
+        Due.due("another piece 1", x.pieceIs(1, 0), 4);
+        Due.due("without readings", x.pieceIs(1, 4), 0);
+        Due.program(x, 0, "read");
+        x.run(0, 0);
+        x.restore();
+        Due.due("no run", x.ran(0), Due.NONE);
+        Due.due("no program", x.run(0, 0), Due.NONE);
         Due.due("in place of one ahead", x.image(), 3);
     }
 
@@ -96,6 +108,21 @@ public final class ImageTest {
         x.restore();
         Due.due("it stays as it was", x.count(4), 8);
         Due.same("state", state(x), state(full()));
+    }
+
+    private static void numbersThatWait() {
+        StrengthHouse x = new StrengthHouse();
+        Due.piece(x, 0, 0, 10, 0, 10);
+        Due.program(x, 0, "go 5;read");
+        x.tell(5);
+        x.tell(5);
+        x.image();
+        Due.due("check", x.check(0, 0), 0);
+        x.tell(1);
+        x.tell(2);
+        x.tell(3);
+        x.restore();
+        Due.due("they wait again", x.check(0, 0), 0);
     }
 
     private static void whatIsNotKept() {

@@ -43,7 +43,12 @@ public final class LawTest {
         lineIs(traced(0, 0, 2, 0, 3, 1, 6, 2), 0, 2, 3);
         // Great loads don't wrap.
         lineIs(traced(0, 0, 1, 99999, 999, 0, 999, 99999), 0, 1, 2);
-        StrengthHouse x = traced(0, 0, 1, 1);
+        StrengthHouse x = traced(0, 0, 1, 1, 2, 2, 3, 3);
+        lineIs(x, 0, 1, 4);
+        Due.trace(x, 0, 0, -1, 1, 7, 2, 8);
+        lineIs(x, 1, 2, 2);
+        Due.trace(x, 0, 0, 7);
+        Due.due("none any more", x.line(0, 2), Due.NONE);
         Due.due("what 3", x.line(0, 3), Due.BEYOND);
         Due.due("what -1", x.line(0, -1), Due.BEYOND);
         Due.due("piece 1", x.line(1, 0), Due.BEYOND);
@@ -260,6 +265,9 @@ public final class LawTest {
         Due.due("stretch -1", x.curve(2, -1, 1), Due.BEYOND);
         Due.due("lot 4", x.curve(4, 5, 1), Due.BEYOND);
         Due.due("lot -1", x.curve(-1, 5, 1), Due.BEYOND);
+        Due.trace(x, 4, 0, 0, 998, 0);
+        Due.due("a load of 0", x.curve(1, 5, 2), 0);
+        Due.due("a load of 0", x.curve(1, 5, 3), 1);
         Due.trace(x, 4, 0, 99999, 998, 0);
         Due.due("great", x.curve(1, 997, 0), 99999 - 99999 * 997L / 998);
         StrengthHouse y = new StrengthHouse();

@@ -23,7 +23,8 @@ public final class PlanTest {
         Due.due("too long", x.plates(0, 1, 998), Due.STATE);
         Due.due("no length", x.plates(0, 6, 999), Due.BEYOND);
         Due.due("no length ahead of too long", x.plates(0, 6, 5), Due.BEYOND);
-        Due.due("no length", x.plates(0, 7, 999), Due.BEYOND);
+        x.put(0, 5, 0);
+        Due.due("no length", x.plates(0, 6, 999), Due.BEYOND);
         Due.due("not so many", x.plates(0, 8, 999), Due.BEYOND);
         // Filling with the longest that fits would take three plates.
         Due.row(x, 0, 6, 5, 5, 4, 4, 3, 3);
