@@ -51,9 +51,13 @@ public final class SheetTest {
             Due.due("40000", read(x), b == 8 ? 64 : b == 16 ? Due.BEYOND : 40000);
             x.put(0, 1, 0x7fff00ff);
             Due.due("lowest bits", read(x), b == 8 ? -1 : b == 16 ? 255 : Due.BEYOND);
+            x.put(0, 0, 6);
             x.put(0, 1, 5);
+            Due.due("5", read(x), 5);
+            Due.due("6", x.reading(0, 0, 0), 6);
             x.sheet(0, b, 2);
             Due.due("0 again", read(x), 0);
+            Due.due("0 again", x.reading(0, 0, 0), 0);
         }
     }
 
