@@ -420,10 +420,9 @@ public final class StrengthHouse {
         int best = 0;
         int least = NUMBER_MOST;
         for (int bits = 0; bits < 1 << n; bits++) {
-            int apart = sumsApart(bits, n);
-            if (Integer.bitCount(bits) == n / 2 && apart < least) {
+            if (Integer.bitCount(bits) == n / 2 && sumsApart(bits, n) < least) {
                 best = bits;
-                least = apart;
+                least = sumsApart(bits, n);
             }
         }
         return best;

@@ -54,9 +54,20 @@ public final class FaceTest {
         Due.due("some twelve classes", classes.length + 1 <= 12 ? 1 : 0, 1);
         rows(StrengthHouse.class);
         for (Class<?> c : classes) {
+            namesInside(c);
             Due.due(c + " is static", Modifier.isStatic(c.getModifiers()) ? 1 : 0, 1);
             Due.due(c + " is public", Modifier.isPublic(c.getModifiers()) ? 1 : 0, 0);
             rows(c);
+        }
+    }
+
+    /** No private method, of a class inside neither, bears the name of a public one. */
+    private static void namesInside(Class<?> c) {
+        for (Method m : c.getDeclaredMethods()) {
+            for (String one : FACE) {
+                boolean isShadow = Modifier.isPrivate(m.getModifiers()) && one.split(" ")[1].equals(m.getName());
+                Due.due(m + " has the name of a public one", isShadow ? 1 : 0, 0);
+            }
         }
     }
 
