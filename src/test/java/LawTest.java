@@ -54,6 +54,9 @@ public final class LawTest {
         Due.due("piece 1", x.line(1, 0), Due.BEYOND);
     }
 
+    private static final int[] STRETCHES = new int[24];
+    private static final int[] LOADS = new int[24];
+
     /** Lines of runs whose stretches go back, too, against a search that counts by itself. */
     private static void linesByHand() {
         int seed = 7;
@@ -76,6 +79,7 @@ public final class LawTest {
             }
             x.limit(3, 5);
             x.run(0, 0);
+            writeDown(x);
             handLine(x);
         }
     }
@@ -87,7 +91,7 @@ public final class LawTest {
         int second = -1;
         for (int i = 0; i < n; i++) {
             for (int j = i + 1; j < n; j++) {
-                int on = handOn(x, n, i, j);
+                int on = handOn(n, i, j);
                 if (on > best) {
                     best = on;
                     first = i;
@@ -97,42 +101,50 @@ public final class LawTest {
         }
         lineIs(x, best == 0 ? Due.NONE : first, best == 0 ? Due.NONE : second, best == 0 ? Due.NONE : best);
         for (int offset = 0; offset < 6 && best > 0; offset++) {
-            Due.due("yields", x.yields(0, offset), handYield(x, n, first, second, offset));
+            Due.due("yields", x.yields(0, offset), handYield(n, first, second, offset));
         }
     }
 
-    private static int handOn(StrengthHouse x, int n, int i, int j) {
-        if (load(x, i) < 0 || load(x, j) < 0 || stretch(x, i) == stretch(x, j)) {
+    private static int handOn(int n, int i, int j) {
+        if (load(i) < 0 || load(j) < 0 || stretch(i) == stretch(j)) {
             return 0;
         }
         int on = 0;
         for (int k = 0; k < n; k++) {
-            double at = lineAt(x, i, j, stretch(x, k));
-            on += load(x, k) >= 0 && Math.abs(at - load(x, k)) < 1e-6 ? 1 : 0;
+            double at = lineAt(i, j, stretch(k));
+            on += load(k) >= 0 && Math.abs(at - load(k)) < 1e-6 ? 1 : 0;
         }
         return on;
     }
 
-    private static int handYield(StrengthHouse x, int n, int i, int j, int offset) {
+    private static int handYield(int n, int i, int j, int offset) {
         for (int k = j; k < n; k++) {
-            if (load(x, k) >= 0 && load(x, k) < lineAt(x, i, j, stretch(x, k)) - offset - 1e-6) {
+            if (load(k) >= 0 && load(k) < lineAt(i, j, stretch(k)) - offset - 1e-6) {
                 return k;
             }
         }
         return Due.NONE;
     }
 
-    private static double lineAt(StrengthHouse x, int i, int j, int stretch) {
-        double slope = (load(x, j) - load(x, i)) / (double) (stretch(x, j) - stretch(x, i));
-        return load(x, i) + slope * (stretch - stretch(x, i));
+    private static double lineAt(int i, int j, int stretch) {
+        double slope = (load(j) - load(i)) / (double) (stretch(j) - stretch(i));
+        return load(i) + slope * (stretch - stretch(i));
     }
 
-    private static int load(StrengthHouse x, int i) {
-        return x.reading(0, i, 1);
+    /** Each reading once, so that a house is used for no more than 512 calls. */
+    private static void writeDown(StrengthHouse x) {
+        for (int i = 0; i < x.pieceIs(0, 4); i++) {
+            STRETCHES[i] = x.reading(0, i, 0);
+            LOADS[i] = x.reading(0, i, 1);
+        }
     }
 
-    private static int stretch(StrengthHouse x, int i) {
-        return x.reading(0, i, 0);
+    private static int load(int i) {
+        return LOADS[i];
+    }
+
+    private static int stretch(int i) {
+        return STRETCHES[i];
     }
 
     private static void yields() {

@@ -304,15 +304,17 @@ public final class RunEdgesTest {
 
     /** Each n-th READING of a RUN (the n-th, the 2n-th, ..; 0: no one) is NONE: -1. */
     private static void eachNth() {
-        StrengthHouse x = ramp(0);
         String six = "go 7;read;read;read;read;read;last read";
         String[] want = {"7:7 7:7 7:7 7:7 7:7 7:7", "7:-1 7:-1 7:-1 7:-1 7:-1 7:-1", "7:7 7:-1 7:7 7:-1 7:7 7:-1",
             "7:7 7:7 7:-1 7:7 7:7 7:-1", "7:7 7:7 7:7 7:-1 7:7 7:7", "7:7 7:7 7:7 7:7 7:-1 7:7",
             "7:7 7:7 7:7 7:7 7:7 7:-1", "7:7 7:7 7:7 7:7 7:7 7:7"};
         for (int n = 0; n <= 24; n++) {
-            x.limit(3, n);
-            run(x, six, 0, 13, 7, 6, want[Math.min(n, 7)]);
+            StrengthHouse each = ramp(0);
+            each.limit(3, n);
+            run(each, six, 0, 13, 7, 6, want[Math.min(n, 7)]);
         }
+        StrengthHouse x = ramp(0);
+        Due.due("n 24", x.limit(3, 24), 0);
         Due.due("n 25", x.limit(3, 25), Due.BEYOND);
         Due.due("24 stays", x.limit(3, 0), 24);
     }
